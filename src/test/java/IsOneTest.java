@@ -34,13 +34,15 @@ public final class IsOneTest {
 
     /** For COIN the second number is the greater one, for CHOICE the first. */
     private static void ofTwoNumbers(Check check, int kind, int most) {
-        TapeCounter x = new TapeCounter();
         for (int less = -2; less <= most + 2; less++) {
+            // one for each row: no object is promised anything behind its 512th call
+            TapeCounter x = new TapeCounter();
             for (int more = -2; more <= most + 2; more++) {
                 boolean want = more >= 1 && more <= most && less >= 0 && less <= more;
                 isOne(check, x, kind, kind == 2 ? less : more, kind == 2 ? more : less, want);
             }
         }
+        TapeCounter x = new TapeCounter();
         for (int wild : WILD) {
             isOne(check, x, kind, wild, 3, false);
             isOne(check, x, kind, 3, wild, false);
