@@ -5,6 +5,7 @@ final class NoSamplers {
 
     static final int[][] ALL = {
         {-1, 1, 1}, {8, 1, 1}, {LOW, 1, 1}, {HIGH, 1, 1}, {LOW + 7, 1, 1}, {HIGH - 7, 1, 1}, {256, 1, 1},
+        {LOW, LOW, LOW}, {HIGH, HIGH, HIGH}, {LOW, HIGH, HIGH}, {HIGH, LOW, LOW}, {-1, LOW, HIGH}, {8, HIGH, LOW},
         {0, 0, 1}, {0, 65, 1}, {0, LOW, 1}, {0, HIGH, 1}, {0, LOW, LOW}, {0, HIGH, HIGH},
         {1, 0, 1}, {1, 65, 1}, {1, LOW, 1}, {1, HIGH, 1}, {1, LOW, LOW}, {1, HIGH, HIGH},
         {2, -1, 3}, {2, 4, 3}, {2, -1, 1}, {2, 2, 1}, {2, -1, 64}, {2, 65, 64},

@@ -17,7 +17,9 @@ public final class Promise09CountBoundsTest {
 
     private static void count(int[] call, int length, int value, int want) {
         String name = "count(" + call[0] + ", " + call[1] + ", " + call[2] + ", " + length + ", " + value + ")";
-        CHECK.due(name, new TapeCounter().count(call[0], call[1], call[2], length, value), want);
+        TapeCounter x = new TapeCounter();
+        CHECK.due(name, x.count(call[0], call[1], call[2], length, value), want);
+        CHECK.due(name + " once more", x.count(call[0], call[1], call[2], length, value), want);
     }
 
     /** There is one tape of no bit; it does for those alone that need none. */

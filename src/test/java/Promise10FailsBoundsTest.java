@@ -15,7 +15,9 @@ public final class Promise10FailsBoundsTest {
 
     private static void fails(int kind, int a, int b, int length, int want) {
         String name = "fails(" + kind + ", " + a + ", " + b + ", " + length + ")";
-        CHECK.due(name, new TapeCounter().fails(kind, a, b, length), want);
+        TapeCounter x = new TapeCounter();
+        CHECK.due(name, x.fails(kind, a, b, length), want);
+        CHECK.due(name + " once more", x.fails(kind, a, b, length), want);
     }
 
     private static void onTheEmptyTape() {

@@ -15,7 +15,9 @@ public final class Promise11WorkBoundsTest {
 
     private static void work(int kind, int a, int b, int length, int want) {
         String name = "work(" + kind + ", " + a + ", " + b + ", " + length + ")";
-        CHECK.due(name, new TapeCounter().work(kind, a, b, length), want);
+        TapeCounter x = new TapeCounter();
+        CHECK.due(name, x.work(kind, a, b, length), want);
+        CHECK.due(name + " once more", x.work(kind, a, b, length), want);
     }
 
     private static void onTheEmptyTape() {
