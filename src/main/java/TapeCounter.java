@@ -171,8 +171,8 @@ public final class TapeCounter {
     private void tryAllTapes(int kind, int a, int b, int length, int value) {
         tally.clear();
         int all = 1 << length;
-        int alike;
-        for (int number = 0; number < all; number += alike) {
+        int alike = 1;
+        for (int number = 0; number < all; number += Math.max(1, alike)) {
             trial.clear();
             trial.append(number, length);
             int got = sample(trial, kind, a, b);

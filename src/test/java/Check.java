@@ -4,13 +4,23 @@ final class Check {
 
     void due(String call, int got, int want) {
         if (got != want) {
-            wrong++;
-            System.out.println(call + " answered " + got + ", due is " + want);
+            tell(call, String.valueOf(got), String.valueOf(want));
         }
     }
 
     void due(String call, boolean got, boolean want) {
         due(call, got ? 1 : 0, want ? 1 : 0);
+    }
+
+    void due(String call, String got, String want) {
+        if (!got.equals(want)) {
+            tell(call, got, want);
+        }
+    }
+
+    private void tell(String call, String got, String want) {
+        wrong++;
+        System.out.println(call + " answered " + got + ", due is " + want);
     }
 
     void end() {
